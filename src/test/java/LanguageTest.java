@@ -1,0 +1,52 @@
+import java.io.IOException;
+import java.nio.file.Files;
+import java.nio.file.Path;
+import java.util.regex.Matcher;
+import java.util.regex.Pattern;
+
+/** What of LANGUAGE.md can be seen from the words of the source; it runs from the project's root. */
+public final class LanguageTest {
+    private static final String[] FORBIDDEN = {
+        "throw", "throws", "try", "catch", "finally", "synchronized", "assert", "import", "package", "protected",
+        "while", "enum", "interface", "extends", "implements", "instanceof", "record", "var", "null", "Object",
+        "System", "Thread", "String", "double", "float", "yield", "native", "volatile", "transient",
+    };
+
+    public static void main(String[] args) throws IOException {
+        Check check = new Check();
+        String source = Files.readString(Path.of("src/main/java/PromiseChains.java"));
+        String code = source.replaceAll("(?s)/\\*.*?\\*/", " ").replaceAll("//[^\n]*", " ");
+        for (String word : FORBIDDEN) {
+            check.holds("without the word " + word, !Pattern.compile("\\b" + word + "\\b").matcher(code).find());
+        }
+        check.holds("no lambda, no method reference", !code.contains("->") && !code.contains("::"));
+        check.holds("signs of ASCII alone", source.chars().allMatch(c -> c < 127 && (c >= 32 || c == '\n')));
+        checkNesting(check, code);
+        checkMath(check, code);
+        check.end();
+    }
+
+    private static void checkNesting(Check check, String code) {
+        Matcher type = Pattern.compile("([a-z ]*)\\bclass (\\w+)").matcher(code);
+        int types = 0;
+        while (type.find()) {
+            types++;
+            boolean isFace = type.group(2).equals("PromiseChains");
+            check.holds("modifiers of " + type.group(2),
+                    type.group(1).trim().equals(isFace ? "public final" : "private static final"));
+        }
+        check.holds("some twelve classes at most", types <= 12);
+        int length = 0;
+        for (String line : code.split("\n")) {
+            length = line.isBlank() || line.matches("    (    )?}") ? 0 : length + 1;
+            check.holds("methods stay under sixty lines", length <= 60);
+        }
+    }
+
+    private static void checkMath(Check check, String code) {
+        Matcher called = Pattern.compile("\\b[A-Z][a-z]\\w*\\.(\\w+)\\(").matcher(code);
+        while (called.find()) {
+            check.holds("library call " + called.group(), called.group().matches("Math\\.(abs|min|max)\\("));
+        }
+    }
+}
