@@ -395,24 +395,19 @@ public final class PromiseChains {
     private boolean findRing() {
         rings.begin(pairs.sumOff());
         for (int pair = 0; pair < pairs.size; pair++) {
-            if (pairs.isFree(pair)) {
-                searchRingsFrom(pair, 0);
-                searchRingsFrom(pair, 1);
+            for (int from = 0; from <= 1; from++) {
+                if (!pairs.isFree(pair) || pairs.side[2 * pair + from] == 0) {
+                    continue;
+                }
+                int next = pairs.person[2 * pair + 1 - from];
+                rings.home = pairs.person[2 * pair + from];
+                rings.now.put(0, pair, from);
+                rings.isMet[next] = true;
+                searchRings(rings, pairs, next, 1);
+                rings.isMet[next] = false;
             }
         }
         return rings.best.length > 0;
-    }
-
-    private void searchRingsFrom(int pair, int from) {
-        if (pairs.side[2 * pair + from] == 0) {
-            return;
-        }
-        int next = pairs.person[2 * pair + 1 - from];
-        rings.home = pairs.person[2 * pair + from];
-        rings.now.put(0, pair, from);
-        rings.isMet[next] = true;
-        searchRings(rings, pairs, next, 1);
-        rings.isMet[next] = false;
     }
 
     // Only pairs above the first of the row are looked at: so each ring is met once, told from its least pair on.
@@ -831,6 +826,7 @@ public final class PromiseChains {
         int offBefore = 0;
         int bestOff = 0;
         int bestM = 0;
+        // Each search leaves it as it was: nobody is met.
         final boolean[] isMet = new boolean[MOST_PEOPLE];
         final Row now = new Row();
         final Row best = new Row();
@@ -838,19 +834,16 @@ public final class PromiseChains {
         void begin(int off) {
             offBefore = off;
             best.length = 0;
-            for (int i = 0; i < MOST_PEOPLE; i++) {
-                isMet[i] = false;
-            }
         }
 
-        // OFF falls, then rises with m, and bends only where the two sides of a pair come nearest.
+        // OFF falls, then rises with m, and bends only where the two sides of a pair come nearest:
+        // so the least OFF, and the least m with it, is at such a place or at the greatest m.
         void offer(Pairs pairs, int length) {
             if (length < LEAST_RING) {
                 return;
             }
             now.length = length;
             int most = leastPayingSide(pairs);
-            weigh(pairs, 1, most);
             weigh(pairs, most, most);
             for (int i = 0; i < length; i++) {
                 int ahead = difference(pairs, i);

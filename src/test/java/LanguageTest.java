@@ -21,12 +21,12 @@ public final class LanguageTest {
         }
         check.holds("no lambda, no method reference", !code.contains("->") && !code.contains("::"));
         check.holds("signs of ASCII alone", source.chars().allMatch(c -> c < 127 && (c >= 32 || c == '\n')));
-        checkNesting(check, code);
+        checkClasses(check, code);
         checkMath(check, code);
         check.end();
     }
 
-    private static void checkNesting(Check check, String code) {
+    private static void checkClasses(Check check, String code) {
         Matcher type = Pattern.compile("([a-z ]*)\\bclass (\\w+)").matcher(code);
         int types = 0;
         while (type.find()) {
@@ -36,11 +36,22 @@ public final class LanguageTest {
                     type.group(1).trim().equals(isFace ? "public final" : "private static final"));
         }
         check.holds("some twelve classes at most", types <= 12);
-        int length = 0;
-        for (String line : code.split("\n")) {
-            length = line.isBlank() || line.matches("    (    )?}") ? 0 : length + 1;
-            check.holds("methods stay under sixty lines", length <= 60);
+        checkMethods(check, code);
+    }
+
+    private static void checkMethods(Check check, String code) {
+        Matcher method = Pattern.compile("(?m)^( {4}| {8})[a-zA-Z][a-zA-Z\\[\\] ]+\\((.*)\\) \\{$").matcher(code);
+        int methods = 0;
+        while (method.find()) {
+            methods++;
+            String told = method.group().trim();
+            int end = code.indexOf("\n" + method.group(1) + "}\n", method.end());
+            check.holds("it ends: " + told, end > 0);
+            long lines = code.substring(method.start(), Math.max(end, method.end())).lines().count();
+            check.holds("sixty lines at most: " + told, lines <= 60);
+            check.holds("seven parameters at most: " + told, method.group(2).split(",").length <= 7);
         }
+        check.holds("methods are found", methods > 50);
     }
 
     private static void checkMath(Check check, String code) {

@@ -32,7 +32,7 @@ public final class ModelTest {
 
     public static void main(String[] args) {
         Check check = new Check();
-        int runs = args.length > 0 ? Integer.parseInt(args[0]) : 400;
+        int runs = args.length > 0 ? Integer.parseInt(args[0]) : 1500;
         for (int i = 0; i < runs && check.wrongOnes() < 20; i++) {
             int[] richest = {6, 40, 200, 2000};
             new ModelTest(check, i, richest[i % 4], i % 8 == 7 ? 3 : 60).run(i);

@@ -98,7 +98,7 @@ public final class PromiseTest {
         x = row();
         x.gap(7);
         x.look(9);
-        x.fee(1, 5, 5);
+        x.fee(1, 5, 50);
         x.promise(0, 3, 10);
         x.away(2, true);
         x.close(2, 3, 0);
