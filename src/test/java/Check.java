@@ -12,6 +12,15 @@ final class Check {
         }
     }
 
+    void due(String what, String got, String want) {
+        if (got.equals(want)) {
+            right++;
+        } else {
+            wrong++;
+            System.out.println(what + " answered \"" + got + "\", due is \"" + want + "\"");
+        }
+    }
+
     void holds(String what, boolean is) {
         due(what, is ? 1 : 0, 1);
     }
