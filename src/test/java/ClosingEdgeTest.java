@@ -9,6 +9,7 @@ public final class ClosingEdgeTest {
         keptLocksMakeStates();
         nothingElseMakesStates();
         lockedCountsToWhoPaid();
+        lockedCountsOnEachPair();
         eachLockOneMore();
         eachRingOneMore();
         sixtyFourAtMost();
@@ -25,6 +26,7 @@ public final class ClosingEdgeTest {
         notTwice();
         notByWhoIsAway();
         oldStateSeenAtOnce();
+        oldStateSeenOnEachPair();
         oldStateSeenOnComingBack();
         oldStateNotSeen();
         backAtTheEndIsTooLate();
@@ -119,6 +121,21 @@ public final class ClosingEdgeTest {
         due("a", x.side(0, 0), 57);
         due("b", x.side(0, 1), 33);
         due("no state of what ran out", x.about(0, 3), 3);
+    }
+
+    /** "(what is LOCKED counted to the SIDE it was paid from)": of that pair, not of another one. */
+    private static void lockedCountsOnEachPair() {
+        PromiseChains x = Scenes.row(5, 50);
+        for (int pair = 0; pair < 4; pair++) {
+            x.promise(pair, pair + 1, 3 + pair);
+            x.promise(pair + 1, pair, 13 + pair);
+        }
+        for (int pair = 0; pair < 4; pair++) {
+            due("one lock", x.promise(pair, pair + 1, 1), 8 + pair);
+            due("kept", x.tell(8 + pair), 1);
+            dueState(x, pair, 1, 49, 51);
+            dueState(x, pair, 0, 50, 50);
+        }
     }
 
     /** "behind each LOCK": two that are kept by one call make two states. */
@@ -373,6 +390,32 @@ public final class ClosingEdgeTest {
             x.tick(5);
             due("and nothing comes behind it", x.wealth(person), 0);
             due("nor for the other one", x.wealth(1 - person), 100);
+        }
+    }
+
+    /** "the other PERSON is THERE": that of this pair, be all others away or there. */
+    private static void oldStateSeenOnEachPair() {
+        for (int pair = 0; pair < 6; pair++) {
+            for (int which = 0; which < 2; which++) {
+                PromiseChains x = Scenes.row(7, 50);
+                Scenes.pay(x, pair, pair + 1, 10);
+                int who = pair + which;
+                int other = pair + 1 - which;
+                x.away(other, true);
+                due("the other one alone is away", x.close(pair, who, 0), 1);
+                x.away(other, false);
+                due("it is back", x.about(pair, 2), CLOSED);
+                x = Scenes.row(7, 50);
+                Scenes.pay(x, pair, pair + 1, 10);
+                for (int person = 0; person < 7; person++) {
+                    if (person != who && person != other) {
+                        x.away(person, true);
+                    }
+                }
+                due("all others are away", x.close(pair, who, 0), 2);
+                int next = other == 0 || other == 6 ? 0 : 50;
+                due("it has all", x.wealth(other), 100 + next);
+            }
         }
     }
 

@@ -17,6 +17,8 @@ public final class PeopleEdgeTest {
         feeIsCut();
         greatestFee();
         peopleClearsAll();
+        pairsAreNewAnew();
+        promisesAreNewAnew();
         gapAndLookStay();
         pairsAreTwelve();
         closedPairsCountToTwelve();
@@ -252,6 +254,61 @@ public final class PeopleEdgeTest {
         due("without locks", x.locked(0, 0), 0);
         due("nothing runs out", x.tick(60), 0);
         due("its side stays", x.side(0, 0), 7);
+    }
+
+    /** people: "no PAIRS": those that come then are open, without locks, with one state, nothing learnt, be they what they were. */
+    private static void pairsAreNewAnew() {
+        PromiseChains x = Scenes.row(7, 50);
+        for (int pair = 0; pair < 4; pair++) {
+            Scenes.pay(x, pair, pair + 1, 5);
+            x.promise(pair, pair + 1, 5);
+            x.promise(pair + 1, pair, 5);
+            x.tries(20);
+        }
+        x.away(6, true);
+        x.close(4, 4, 0);
+        x.tick(1);
+        x.close(5, 5, 0);
+        x.away(0, true);
+        due("people(7)", x.people(7), 1);
+        for (int pair = 0; pair < 6; pair++) {
+            x.pair(pair, pair + 1, 50, 50);
+            due("open", x.about(pair, 2), 0);
+            due("no end", x.about(pair, 4), NONE);
+            due("one state", x.about(pair, 3), 1);
+            due("not locked of a", x.locked(pair, 0), 0);
+            due("not locked of b", x.locked(pair, 1), 0);
+            due("least", x.learnt(pair, 0), 0);
+            due("greatest", x.learnt(pair, 1), 100);
+        }
+        due("a way over all", x.best(0, 6, 50), 50);
+        due("wealth of two sides", x.wealth(1), 100);
+        due("a lock", x.promise(2, 3, 7), 0);
+        due("kept", x.tell(0), 1);
+        due("its state has no lock of others", x.stateAt(2, 1, 0), 43);
+        due("nor b's", x.stateAt(2, 1, 1), 57);
+    }
+
+    /** people: "no PROMISES": those that come then are not told, and none of their locks is kept. */
+    private static void promisesAreNewAnew() {
+        PromiseChains x = Scenes.row(4, 50);
+        Scenes.pay(x, 0, 3, 5);
+        x.promise(0, 3, 5);
+        x.tick(9);
+        x.people(4);
+        for (int i = 0; i < 3; i++) {
+            x.pair(i, i + 1, 50, 50);
+        }
+        for (int promise = 0; promise < 2; promise++) {
+            due("promise", x.promise(0, 3, 5), promise);
+            due("open", x.promiseAt(promise, 0), 0);
+            due("three locks", x.promiseAt(promise, 3), 3);
+            due("none kept", x.promiseAt(promise, 4), 0);
+            due("not told", x.promiseAt(promise, 5), 0);
+            due("three more", x.count(3), 3 * promise + 3);
+        }
+        due("the first is kept", x.tell(0), 3);
+        due("the second runs out", x.tick(9), 3);
     }
 
     /** people: "(GAP, LOOK stay)". */

@@ -12,10 +12,12 @@ public final class RingEdgeTest {
         ringWithoutLocks();
         ringLeadsRound();
         ringMeetsNobodyTwice();
+        ringMeetsNotItsSecondTwice();
         mIsOneOn();
         noSideBelowZero();
         lessThanItWas();
         leastOffIsFirst();
+        leastOffByUnlikePairs();
         thenLeastM();
         thenFewestPairs();
         thenFirstByTheRow();
@@ -177,6 +179,16 @@ public final class RingEdgeTest {
         dueNoRing("even", x);
     }
 
+    /** "no other PERSON twice": nor the one that it comes to first. */
+    private static void ringMeetsNotItsSecondTwice() {
+        dueNoRing("0, 1, 2, 1, 0", with(3, new int[] {0, 1, 8, 0}, new int[] {1, 2, 8, 0}, new int[] {2, 1, 8, 0},
+                new int[] {1, 0, 8, 0}));
+        dueNoRing("1, 0, 2, 0, 1", with(3, new int[] {1, 0, 8, 0}, new int[] {0, 2, 8, 0}, new int[] {2, 0, 8, 0},
+                new int[] {0, 1, 8, 0}));
+        dueNoRing("there and back, twice", with(4, new int[] {0, 1, 8, 0}, new int[] {1, 2, 8, 0},
+                new int[] {2, 3, 8, 0}, new int[] {3, 2, 8, 0}, new int[] {2, 1, 8, 0}, new int[] {1, 0, 8, 0}));
+    }
+
     /** "m (1 on)". */
     private static void mIsOneOn() {
         dueRing("m of 1", Scenes.triangle(2, 0, 2, 0, 2, 0), 0, 1, "012");
@@ -199,7 +211,9 @@ public final class RingEdgeTest {
             x = Scenes.triangle(sides[0], sides[1], sides[2], sides[3], sides[4], sides[5]);
             dueNoRing("0 of " + poor, x);
         }
-        dueRing("1 is enough", Scenes.triangle(90, 0, 1, 0, 90, 0), 88 + 1 + 88, 1, "012");
+        dueRing("1 of 0 is enough", Scenes.triangle(1, 0, 90, 0, 90, 0), 1 + 88 + 88, 1, "012");
+        dueRing("1 of 1 is enough", Scenes.triangle(90, 0, 1, 0, 90, 0), 88 + 1 + 88, 1, "012");
+        dueRing("1 of 2 is enough", Scenes.triangle(90, 0, 90, 0, 1, 0), 88 + 88 + 1, 1, "012");
     }
 
     /** "that with the least OFF, if that is less than it was". */
@@ -209,6 +223,26 @@ public final class RingEdgeTest {
         dueRing("two better, one worse", Scenes.triangle(12, 10, 12, 10, 10, 10), 2, 1, "012");
         dueNoRing("as much as it was", Scenes.triangle(14, 10, 11, 10, 10, 11));
         dueRing("one less", Scenes.triangle(14, 10, 13, 10, 10, 10), 5, 1, "012");
+    }
+
+    /** "that with the least OFF": m is where the middle one of the pairs is even, whichever of them that is. */
+    private static void leastOffByUnlikePairs() {
+        int[][] ahead = {{10, 4, 20}, {4, 10, 20}, {4, 20, 10}, {20, 4, 10}, {20, 10, 4}, {10, 20, 4}};
+        for (int[] v : ahead) {
+            dueRing("10 is the middle one", Scenes.triangle(30 + v[0], 30, 30 + v[1], 30, 30 + v[2], 30), 16, 5, "012");
+            dueRing("9 is", Scenes.triangle(v[0] == 10 ? 39 : 30 + v[0], 30, v[1] == 10 ? 39 : 30 + v[1], 30,
+                    v[2] == 10 ? 39 : 30 + v[2], 30), 17, 4, "012");
+        }
+        for (int odd = 0; odd < 4; odd++) {
+            int[] four = {20, 20, 20, 20};
+            four[odd] = 9;
+            four[(odd + 1) % 4] = 3;
+            PromiseChains x = with(4);
+            for (int i = 0; i < 4; i++) {
+                x.pair(i, (i + 1) % 4, 30 + four[i], 30);
+            }
+            dueRing("four: 5 is the least from where it is flat", x, 28, 5, "0123");
+        }
     }
 
     /** "that with the least OFF": ahead of m, of fewer pairs and of the row. */

@@ -7,6 +7,8 @@ public final class WayEdgeTest {
         overOpenPairsAlone();
         fromOneToTheNext();
         nobodyTwice();
+        eachWayIsLookedAt();
+        eachSearchIsNew();
         sixPairsAtMost();
         getsOneToHundredThousand();
         lastCarriesX();
@@ -74,6 +76,36 @@ public final class WayEdgeTest {
         due("1 to 2", x.best(1, 2, 99), 99);
         dueWay("one pair", x, "0");
         due("1 to 2, more than any", x.best(1, 2, 100), NONE);
+    }
+
+    /** "THE BEST WAY": a person of a worse way may be on the best one, too. */
+    private static void eachWayIsLookedAt() {
+        PromiseChains x = new PromiseChains();
+        x.people(4);
+        x.pair(1, 3, 9, 9);
+        x.pair(2, 1, 9, 9);
+        x.pair(0, 2, 9, 9);
+        x.pair(2, 3, 9, 9);
+        due("0 to 3", x.best(0, 3, 9), 9);
+        dueWay("not 2, 1, 0", x, "23");
+        due("3 to 0", x.best(3, 0, 9), 9);
+        dueWay("nor 0, 1, 2", x, "32");
+    }
+
+    /** "THE BEST WAY": whom the latest one was from or to is between others, or an end, as well. */
+    private static void eachSearchIsNew() {
+        for (int person = 0; person < 7; person++) {
+            PromiseChains x = new PromiseChains();
+            x.people(7);
+            x.pair((person + 1) % 7, person, 9, 9);
+            x.pair(person, (person + 2) % 7, 9, 9);
+            due("to " + person, x.best((person + 1) % 7, person, 9), 9);
+            due("over " + person, x.best((person + 1) % 7, (person + 2) % 7, 9), 9);
+            dueWay("over both", x, "01");
+            due("from " + person, x.best(person, (person + 1) % 7, 9), 9);
+            due("back over " + person, x.best((person + 2) % 7, (person + 1) % 7, 9), 9);
+            dueWay("over both turned", x, "10");
+        }
     }
 
     /** "no PERSON twice": so six pairs for seven people. */
